@@ -214,8 +214,9 @@ public final class BatchMachine {
     }
 
     public long keepBest() {
-        saveState();
+        // Found before the state is saved, so that undo does not lose it.
         long best = presentBest();
+        saveState();
         // The first schedule that the search meets with this cost is the best
         // schedule, because it goes through them in the order of the document.
         search.run(now.shop, NONE, best + 1, best);

@@ -1,0 +1,127 @@
+import java.lang.reflect.Constructor;
+import java.lang.reflect.Field;
+import java.lang.reflect.Method;
+import java.lang.reflect.Modifier;
+import java.nio.charset.StandardCharsets;
+import java.nio.file.Files;
+import java.nio.file.Path;
+import java.util.Arrays;
+import java.util.TreeSet;
+import java.util.regex.Matcher;
+import java.util.regex.Pattern;
+
+/** The face of the document, and what can be seen of LANGUAGE.md in the class and its text. */
+public final class LanguageTest {
+    private static final String[] FACE = {
+        "int addJob(int,int,int,int,int)", "int removeJob(int)", "int setJob(int,int,int)",
+        "int job(int,int)", "int jobs()", "int setSetup(int,int,int)",
+        "int setMode(boolean,boolean)", "int setObjective(int)", "int append(int)",
+        "int clearText()", "int parse()", "long keepRule(int)", "long keepBest()",
+        "int improve(int)", "int batches()", "int batch(int,int)", "int jobAt(int,int)",
+        "int planned(int,int)", "long cost()", "int total(int)", "long bestCost()",
+        "long ruleCost(int)", "long bestWithout(int)", "long bestWithFirst(int)",
+        "int latestRelease(int)", "long setupPrice()", "int undo()", "long digest()"};
+    private static final String[] OUTSIDE = {
+        "->", "::", "\\bfinally\\b", "\\bsynchronized\\b", "\\bassert\\b", "\\bcatch\\b",
+        "\\bExact\\b", "\\w+Exact\\(", "\\bpackage\\b", "\\bprotected\\b", "\\bnative\\b",
+        "\\bfloat\\b|\\bdouble\\b", "\\bMath\\.(random|sqrt|pow)", "\\bThread\\b", "\\bSystem\\.(?!arraycopy)",
+        "\\bhashCode\\b", "\\btoString\\b", "\\bvar\\b", "\\brecord\\b", "static \\{"};
+
+    public static void main(String[] args) throws Exception {
+        theFace();
+        theText();
+        Checks.close();
+    }
+
+    private static void theFace() throws Exception {
+        Class<?> c = BatchMachine.class;
+        TreeSet<String> publicMethods = new TreeSet<>();
+        TreeSet<String> names = new TreeSet<>();
+        for (Method m : c.getDeclaredMethods()) {
+            if (Modifier.isPublic(m.getModifiers())) {
+                publicMethods.add(signature(m));
+                names.add(m.getName());
+            } else {
+                dueTrue(m + " is private", Modifier.isPrivate(m.getModifiers()));
+            }
+        }
+        Checks.compare("public methods", publicMethods.toString(),
+                new TreeSet<>(Arrays.asList(FACE)).toString());
+        for (Field f : c.getDeclaredFields()) {
+            boolean constant = f.getName().equals("NONE") && Modifier.isPublic(f.getModifiers())
+                    && Modifier.isStatic(f.getModifiers()) && Modifier.isFinal(f.getModifiers());
+            dueTrue(f + " is private", constant || Modifier.isPrivate(f.getModifiers()));
+        }
+        Constructor<?>[] constructors = c.getDeclaredConstructors();
+        dueTrue("one public constructor", constructors.length == 1
+                && Modifier.isPublic(constructors[0].getModifiers())
+                && constructors[0].getParameterCount() == 0);
+        dueTrue("public and final", Modifier.isPublic(c.getModifiers())
+                && Modifier.isFinal(c.getModifiers()));
+        classesInside(c, names);
+    }
+
+    private static void classesInside(Class<?> c, TreeSet<String> names) {
+        dueTrue("at most twelve classes", c.getDeclaredClasses().length < 12);
+        for (Class<?> inside : c.getDeclaredClasses()) {
+            dueTrue(inside + " is static", Modifier.isStatic(inside.getModifiers()));
+            dueTrue(inside + " is not public", !Modifier.isPublic(inside.getModifiers()));
+            for (Method m : inside.getDeclaredMethods()) {
+                dueTrue(m + " has a name of its own", !names.contains(m.getName()));
+                dueTrue(m + " has at most seven parameters", m.getParameterCount() <= 7);
+            }
+        }
+        for (Method m : c.getDeclaredMethods()) {
+            dueTrue(m + " has a name of its own",
+                    Modifier.isPublic(m.getModifiers()) || !names.contains(m.getName()));
+        }
+    }
+
+    private static String signature(Method m) {
+        StringBuilder text = new StringBuilder();
+        text.append(m.getReturnType().getSimpleName()).append(' ').append(m.getName()).append('(');
+        for (int i = 0; i < m.getParameterCount(); i++) {
+            text.append(i > 0 ? "," : "").append(m.getParameterTypes()[i].getSimpleName());
+        }
+        return text.append(')').toString();
+    }
+
+    private static void theText() throws Exception {
+        String text = Files.readString(Path.of("src/main/java/BatchMachine.java"), StandardCharsets.UTF_8);
+        for (int i = 0; i < text.length(); i++) {
+            if (text.charAt(i) > 126) {
+                dueTrue("sign " + i + " of the text is plain", false);
+            }
+        }
+        String code = text.replaceAll("(?s)/\\*.*?\\*/", " ").replaceAll("//[^\n]*", " ")
+                .replaceAll("\"[^\"\n]*\"", "\"\"");
+        for (String pattern : OUTSIDE) {
+            Matcher found = Pattern.compile(pattern).matcher(code);
+            dueTrue("no " + pattern + " in the text", !found.find());
+        }
+        Matcher imports = Pattern.compile("\\bimport ([^;]*);").matcher(code);
+        while (imports.find()) {
+            dueTrue("import of " + imports.group(1),
+                    imports.group(1).matches("java\\.util\\.(Arrays|ArrayList|List|NoSuchElementException)"));
+        }
+        methodLengths(text);
+    }
+
+    private static void methodLengths(String text) {
+        String[] lines = text.split("\n");
+        int begin = -1;
+        for (int i = 0; i < lines.length; i++) {
+            if (lines[i].matches(" {4}(public|private) [^;=]*\\(.*") || lines[i].matches(" {8}[a-z][^;=]*\\(.*\\) \\{")) {
+                begin = i;
+            }
+            if (lines[i].matches(" {4}( {4})?\\}") && begin >= 0) {
+                dueTrue("the method at line " + (begin + 1) + " is short", i - begin <= 60);
+                begin = -1;
+            }
+        }
+    }
+
+    private static void dueTrue(String name, boolean holds) {
+        Checks.compare(name, Boolean.toString(holds), "true");
+    }
+}
