@@ -916,7 +916,7 @@ public final class BatchMachine {
             shop.orderByRule(shop.objective < OBJECTIVE_LATE ? 2 : 1, ranked);
             Arrays.fill(seenCount, 0);
             if (shop.count > 0) {
-                extend(0, 0, NONE, 0, shop.startingSum());
+                extend(this, 0, 0, NONE, 0, shop.startingSum());
             }
             return best;
         }
@@ -962,11 +962,12 @@ public final class BatchMachine {
         private void fillSets() {
             setCount = 0;
             for (int job = 0; job < shop.count; job++) {
-                // These are the sets whose greatest job it is.
-                for (int rest = 0; rest < 1 << job; rest++) {
+                // What can stand beside it in a set whose greatest job it is.
+                int rests = shop.whole ? 1 << job : 1;
+                for (int rest = 0; rest < rests; rest++) {
                     describeSet(rest, job);
                     int set = rest | 1 << job;
-                    if (familyOf[set] != NONE && (shop.whole || rest == 0)) {
+                    if (familyOf[set] != NONE) {
                         sets[setCount] = set;
                         setCount++;
                     }
@@ -989,32 +990,36 @@ public final class BatchMachine {
             }
         }
 
-        private void extend(int depth, int done, int last, int free, long sum) {
-            if (done == all) {
-                best = sum;
-                foundCount = depth;
-                System.arraycopy(chosen, 0, found, 0, MAX_JOBS);
+        private static void extend(Search s, int depth, int done, int last, int free, long sum) {
+            if (done == s.all) {
+                s.best = sum;
+                s.foundCount = depth;
+                System.arraycopy(s.chosen, 0, s.found, 0, MAX_JOBS);
                 return;
             }
             if (depth >= MAX_JOBS) {
                 return;
             }
-            for (int i = 0; i < setCount && best > floor; i++) {
-                int set = sets[i];
-                if ((set & done) == 0 && (depth > 0 || first == NONE || (set >> first & 1) != 0)) {
+            for (int i = 0; i < s.setCount && s.best > s.floor; i++) {
+                int set = s.sets[i];
+                if ((set & done) == 0 && (depth > 0 || s.canBeFirst(set))) {
                     int next = done | set;
-                    int family = familyOf[set];
-                    int end = endOf(set, last, free);
-                    long cost = sumWith(set, end, sum);
-                    if (cost < best && !isOutdone(next, family, end, cost)
-                            && boundApart(next, family, end, cost) < best
-                            && boundInLine(next, family, end, cost) < best) {
-                        remember(next, family, end, cost);
-                        chosen[depth] = set;
-                        extend(depth + 1, next, family, end, cost);
+                    int family = s.familyOf[set];
+                    int end = s.endOf(set, last, free);
+                    long cost = s.sumWith(set, end, sum);
+                    if (cost < s.best && !s.isOutdone(next, family, end, cost)
+                            && s.boundApart(next, family, end, cost) < s.best
+                            && s.boundInLine(next, family, end, cost) < s.best) {
+                        s.remember(next, family, end, cost);
+                        s.chosen[depth] = set;
+                        extend(s, depth + 1, next, family, end, cost);
                     }
                 }
             }
+        }
+
+        private boolean canBeFirst(int set) {
+            return first == NONE || (set >> first & 1) != 0;
         }
 
         private int endOf(int set, int last, int free) {

@@ -49,5 +49,30 @@ public final class EightJobsTest {
         Checks.due(name + "digest()", () -> x.digest(), m.digest());
         Checks.due(name + "setupPrice()", () -> x.setupPrice(), m.setupPrice());
         Checks.due(name + "bestWithout(0)", () -> x.bestWithout(0), m.bestWithout(0));
+        for (int job = 0; job < count; job++) {
+            compareRelease(name, x, m, job);
+        }
+    }
+
+    /** To go through all schedules for each release would take too long: the two next to the edge do. */
+    private static void compareRelease(String name, BatchMachine x, Model m, int job) {
+        int present = m.job(job, 2);
+        int limit = Math.min(present + 100, 300);
+        int latest = x.latestRelease(job);
+        String call = name + "latestRelease(" + job + ") = " + latest;
+        Checks.compare(call + " is within its range",
+                "" + (latest >= present && latest <= limit), "true");
+        Checks.due(call + ": best cost with it", () -> bestWith(x, job, latest), m.bestCost());
+        if (latest < limit) {
+            Checks.compare(call + " is the latest",
+                    "" + (bestWith(x, job, latest + 1) != m.bestCost()), "true");
+        }
+    }
+
+    private static long bestWith(BatchMachine x, int job, int release) {
+        x.setJob(job, 2, release);
+        long best = x.bestCost();
+        x.undo();
+        return best;
     }
 }
