@@ -636,8 +636,8 @@ public final class BatchMachine {
         private int dueOfFamily(int family) {
             int least = GREATEST_VALUE[DUE];
             for (int job = 0; job < count; job++) {
-                if (values[FAMILY][job] == family) {
-                    least = Math.min(least, values[DUE][job]);
+                if (values[FAMILY][job] == family && values[DUE][job] < least) {
+                    least = values[DUE][job];
                 }
             }
             return least;

@@ -6,16 +6,33 @@ public final class EightJobsTest {
         for (int seed = 0; seed < 96; seed++) {
             compareOne(seed);
         }
+        for (int seed = 0; seed < 4000; seed++) {
+            searchOne(seed);
+        }
         Checks.close();
     }
 
-    private static void compareOne(int seed) {
+    /**
+     * Many more machines, by what their answers say of one another: rare ones need more than
+     * the search has room to remember, and must neither throw nor lose a schedule by that.
+     */
+    private static void searchOne(int seed) {
         Random dice = new Random(seed);
         BatchMachine x = new BatchMachine();
         Model m = new Model();
-        int count = seed % 8 == 0 ? 8 : 7;
-        int families = 1 + dice.nextInt(4);
         int span = dice.nextInt(3) == 0 ? 5 : 60;
+        fill(x, m, dice, 8, span);
+        setUp(x, m, dice.nextBoolean(), dice.nextBoolean(), dice.nextInt(6));
+        String name = "machine " + seed + " ";
+        compareSteps(name, x, m, dice.nextInt(4), dice.nextInt(51));
+        Checks.due(name + "keepBest() - bestCost()", () -> x.keepBest() - x.bestCost(), 0);
+        Checks.due(name + "cost() - bestCost()", () -> x.cost() - x.bestCost(), 0);
+        Checks.due(name + "least bestWithFirst() - bestCost()", () -> leastWithFirst(x) - x.bestCost(), 0);
+    }
+
+    /** Small spans make ties. */
+    private static void fill(BatchMachine x, Model m, Random dice, int count, int span) {
+        int families = 1 + dice.nextInt(4);
         for (int j = 0; j < count; j++) {
             int f = dice.nextInt(families);
             int p = 1 + dice.nextInt(Math.min(50, span));
@@ -25,19 +42,42 @@ public final class EightJobsTest {
             x.addJob(f, p, r, d, w);
             m.addJob(f, p, r, d, w);
         }
-        for (int f = -1; f < 4; f++) {
-            for (int g = 0; g < 4; g++) {
-                int t = dice.nextInt(Math.min(61, span));
-                x.setSetup(f, g, t);
-                m.setSetup(f, g, t);
-            }
+        for (int k = 0; k < 20; k++) {
+            int t = dice.nextInt(Math.min(61, span));
+            x.setSetup(k / 4 - 1, k % 4, t);
+            m.setSetup(k / 4 - 1, k % 4, t);
         }
-        boolean batch = seed / 6 % 2 == 0;
-        boolean early = seed / 12 % 2 == 0;
+    }
+
+    private static void setUp(BatchMachine x, Model m, boolean batch, boolean early, int objective) {
         x.setMode(batch, early);
         m.setMode(batch, early);
-        x.setObjective(seed % 6);
-        m.setObjective(seed % 6);
+        x.setObjective(objective);
+        m.setObjective(objective);
+    }
+
+    private static void compareSteps(String name, BatchMachine x, Model m, int rule, int steps) {
+        Checks.due(name + "keepRule(" + rule + ")", () -> x.keepRule(rule), m.keepRule(rule));
+        Checks.due(name + "improve(" + steps + ")", () -> x.improve(steps), m.improve(steps));
+        Checks.due(name + "improve(50)", () -> x.improve(50), m.improve(50));
+        Checks.dueKept(name + "improve(50)", x, m.keptText());
+    }
+
+    private static long leastWithFirst(BatchMachine x) {
+        long least = Long.MAX_VALUE;
+        for (int job = 0; job < x.jobs(); job++) {
+            least = Math.min(least, x.bestWithFirst(job));
+        }
+        return least;
+    }
+
+    private static void compareOne(int seed) {
+        Random dice = new Random(seed);
+        BatchMachine x = new BatchMachine();
+        Model m = new Model();
+        int count = seed % 8 == 0 ? 8 : 7;
+        fill(x, m, dice, count, dice.nextInt(3) == 0 ? 5 : 60);
+        setUp(x, m, seed / 6 % 2 == 0, seed / 12 % 2 == 0, seed % 6);
         String name = "seed " + seed + " ";
         Checks.due(name + "bestCost()", () -> x.bestCost(), m.bestCost());
         for (int job = 0; job < count; job++) {

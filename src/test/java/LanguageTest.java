@@ -42,7 +42,7 @@ public final class LanguageTest {
                 publicMethods.add(signature(m));
                 names.add(m.getName());
             } else {
-                dueTrue(m + " is private", Modifier.isPrivate(m.getModifiers()));
+                Checks.dueTrue(m + " is private", Modifier.isPrivate(m.getModifiers()));
             }
         }
         Checks.compare("public methods", publicMethods.toString(),
@@ -50,29 +50,29 @@ public final class LanguageTest {
         for (Field f : c.getDeclaredFields()) {
             boolean constant = f.getName().equals("NONE") && Modifier.isPublic(f.getModifiers())
                     && Modifier.isStatic(f.getModifiers()) && Modifier.isFinal(f.getModifiers());
-            dueTrue(f + " is private", constant || Modifier.isPrivate(f.getModifiers()));
+            Checks.dueTrue(f + " is private", constant || Modifier.isPrivate(f.getModifiers()));
         }
         Constructor<?>[] constructors = c.getDeclaredConstructors();
-        dueTrue("one public constructor", constructors.length == 1
+        Checks.dueTrue("one public constructor", constructors.length == 1
                 && Modifier.isPublic(constructors[0].getModifiers())
                 && constructors[0].getParameterCount() == 0);
-        dueTrue("public and final", Modifier.isPublic(c.getModifiers())
+        Checks.dueTrue("public and final", Modifier.isPublic(c.getModifiers())
                 && Modifier.isFinal(c.getModifiers()));
         classesInside(c, names);
     }
 
     private static void classesInside(Class<?> c, TreeSet<String> names) {
-        dueTrue("at most twelve classes", c.getDeclaredClasses().length < 12);
+        Checks.dueTrue("at most twelve classes", c.getDeclaredClasses().length < 12);
         for (Class<?> inside : c.getDeclaredClasses()) {
-            dueTrue(inside + " is static", Modifier.isStatic(inside.getModifiers()));
-            dueTrue(inside + " is not public", !Modifier.isPublic(inside.getModifiers()));
+            Checks.dueTrue(inside + " is static", Modifier.isStatic(inside.getModifiers()));
+            Checks.dueTrue(inside + " is not public", !Modifier.isPublic(inside.getModifiers()));
             for (Method m : inside.getDeclaredMethods()) {
-                dueTrue(m + " has a name of its own", !names.contains(m.getName()));
-                dueTrue(m + " has at most seven parameters", m.getParameterCount() <= 7);
+                Checks.dueTrue(m + " has a name of its own", !names.contains(m.getName()));
+                Checks.dueTrue(m + " has at most seven parameters", m.getParameterCount() <= 7);
             }
         }
         for (Method m : c.getDeclaredMethods()) {
-            dueTrue(m + " has a name of its own",
+            Checks.dueTrue(m + " has a name of its own",
                     Modifier.isPublic(m.getModifiers()) || !names.contains(m.getName()));
         }
     }
@@ -90,18 +90,18 @@ public final class LanguageTest {
         String text = Files.readString(Path.of("src/main/java/BatchMachine.java"), StandardCharsets.UTF_8);
         for (int i = 0; i < text.length(); i++) {
             if (text.charAt(i) > 126) {
-                dueTrue("sign " + i + " of the text is plain", false);
+                Checks.dueTrue("sign " + i + " of the text is plain", false);
             }
         }
         String code = text.replaceAll("(?s)/\\*.*?\\*/", " ").replaceAll("//[^\n]*", " ")
                 .replaceAll("\"[^\"\n]*\"", "\"\"");
         for (String pattern : OUTSIDE) {
             Matcher found = Pattern.compile(pattern).matcher(code);
-            dueTrue("no " + pattern + " in the text", !found.find());
+            Checks.dueTrue("no " + pattern + " in the text", !found.find());
         }
         Matcher imports = Pattern.compile("\\bimport ([^;]*);").matcher(code);
         while (imports.find()) {
-            dueTrue("import of " + imports.group(1),
+            Checks.dueTrue("import of " + imports.group(1),
                     imports.group(1).matches("java\\.util\\.(Arrays|ArrayList|List|NoSuchElementException)"));
         }
         methodLengths(text);
@@ -115,13 +115,9 @@ public final class LanguageTest {
                 begin = i;
             }
             if (lines[i].matches(" {4}( {4})?\\}") && begin >= 0) {
-                dueTrue("the method at line " + (begin + 1) + " is short", i - begin <= 60);
+                Checks.dueTrue("the method at line " + (begin + 1) + " is short", i - begin <= 60);
                 begin = -1;
             }
         }
-    }
-
-    private static void dueTrue(String name, boolean holds) {
-        Checks.compare(name, Boolean.toString(holds), "true");
     }
 }

@@ -1,7 +1,7 @@
 /** Each promise by hand-worked answers: ordinary inputs, the edges, and wrong inputs. */
 public final class PromisesTest {
-    private static final int LOW = Integer.MIN_VALUE;
-    private static final int HIGH = Integer.MAX_VALUE;
+    private static final int LOW = Checks.LOW;
+    private static final int HIGH = Checks.HIGH;
 
     public static void main(String[] args) {
         promise1NewObject();
@@ -43,28 +43,10 @@ public final class PromisesTest {
         return x;
     }
 
-    private static void dueKept(String name, BatchMachine x, String want) {
-        Checks.compare(name + " keeps", Checks.kept(x), want);
-    }
-
     /** The digest ends with the number of saved states, of which the oldest may have been dropped. */
     private static void dueUndo(String name, BatchMachine x, long digest, int dropped) {
         x.undo();
         Checks.due(name + ", undone: digest()", () -> x.digest(), digest - dropped);
-    }
-
-    private static void dueBatch(String name, BatchMachine x, int batch, int... want) {
-        for (int what = 0; what < want.length; what++) {
-            int w = what;
-            Checks.due(name + " batch(" + batch + ", " + w + ")", () -> x.batch(batch, w), want[w]);
-        }
-    }
-
-    private static void duePlanned(String name, BatchMachine x, int job, int... want) {
-        for (int what = 0; what < want.length; what++) {
-            int w = what;
-            Checks.due(name + " planned(" + job + ", " + w + ")", () -> x.planned(job, w), want[w]);
-        }
     }
 
     private static void promise1NewObject() {
@@ -118,7 +100,7 @@ public final class PromisesTest {
         BatchMachine y = sample();
         Checks.parse(y, "01/2");
         y.addJob(0, 1, 0, 0, 1);
-        dueKept("addJob leaves the kept schedule: it", y, "01/2");
+        Checks.dueKept("addJob leaves the kept schedule: it", y, "01/2");
     }
 
     private static void promise3RemoveJob() {
@@ -136,12 +118,12 @@ public final class PromisesTest {
         Checks.due("removeJob thrown: digest()", () -> x.digest(), before);
         Checks.due("removeJob(1)", () -> x.removeJob(1), 3);
         // The batches on both sides of the one that is gone stay apart.
-        dueKept("removeJob(1)", x, "2/10");
+        Checks.dueKept("removeJob(1)", x, "2/10");
         Checks.due("removeJob(1): job(1, 4)", () -> x.job(1, 4), 3);
         Checks.due("removeJob(1): job(2, 1)", () -> x.job(2, 1), 4);
         Checks.dueOutOfBounds("removeJob(1): job(3, 0)", () -> x.job(3, 0));
         Checks.due("removeJob(0)", () -> x.removeJob(0), 2);
-        dueKept("removeJob(0)", x, "1/0");
+        Checks.dueKept("removeJob(0)", x, "1/0");
         x.undo();
         dueUndo("removeJob(1)", x, before, 2);
         BatchMachine y = new BatchMachine();
@@ -165,11 +147,11 @@ public final class PromisesTest {
             Checks.dueIllegalArgument(name + "HIGH)", () -> x.setJob(1, w, HIGH));
             Checks.due(name + "..) thrown: digest()", () -> x.digest(), before);
             Checks.due(name + "same)", () -> x.setJob(1, w, old[w]), old[w]);
-            dueKept(name + "same)", x, "01");
+            Checks.dueKept(name + "same)", x, "01");
             Checks.due(name + "least)", () -> x.setJob(1, w, least[w]), old[w]);
             Checks.due(name + "greatest)", () -> x.setJob(1, w, greatest[w]), least[w]);
             Checks.due("job(1, " + w + ")", () -> x.job(1, w), greatest[w]);
-            dueKept(name + "greatest)", x, w == 0 ? "" : "01");
+            Checks.dueKept(name + "greatest)", x, w == 0 ? "" : "01");
             x.undo();
             x.undo();
             dueUndo(name + "..)", x, before, w == 4 ? 3 : 0);
@@ -182,7 +164,7 @@ public final class PromisesTest {
         Checks.parse(x, "0");
         x.setJob(2, 0, 3);
         // Also the family of a job that the kept schedule leaves out.
-        dueKept("setJob(2, 0, 3)", x, "");
+        Checks.dueKept("setJob(2, 0, 3)", x, "");
     }
 
     private static void promise5And6Job() {
@@ -283,7 +265,7 @@ public final class PromisesTest {
             Checks.parse(x, "0/2");
             long before = x.digest();
             Checks.due("parse of " + text, () -> Checks.parse(x, text), (Integer) row[1]);
-            dueKept("parse of " + text, x, (Integer) row[1] < 0 ? "0/2" : text);
+            Checks.dueKept("parse of " + text, x, (Integer) row[1] < 0 ? "0/2" : text);
             Checks.due("parse of " + text + ": length of the text", () -> x.clearText(), text.length());
             x.append(48);
             x.append(48);
@@ -292,7 +274,7 @@ public final class PromisesTest {
                 Checks.due("parse of " + text + ": digest()", () -> x.digest(), before);
             } else {
                 x.undo();
-                dueKept("parse of " + text + ", undone, it", x, "0/2");
+                Checks.dueKept("parse of " + text + ", undone, it", x, "0/2");
             }
         }
         BatchMachine y = new BatchMachine();
@@ -330,9 +312,9 @@ public final class PromisesTest {
             Checks.due("ruleCost(" + r + ")", () -> x.ruleCost(r), cost[r]);
             Checks.due("ruleCost(" + r + "): digest()", () -> x.digest(), before);
             Checks.due("keepRule(" + r + ")", () -> x.keepRule(r), cost[r]);
-            dueKept("keepRule(" + r + ")", x, want[r]);
+            Checks.dueKept("keepRule(" + r + ")", x, want[r]);
             x.undo();
-            dueKept("keepRule(" + r + ") undone, it", x, "4");
+            Checks.dueKept("keepRule(" + r + ") undone, it", x, "4");
             x.keepRule(r);
             x.parse();
         }
@@ -354,7 +336,7 @@ public final class PromisesTest {
         x.addJob(2, 1, 0, 5, 1);
         x.addJob(3, 1, 0, 10, 1);
         x.keepRule(3);
-        dueKept("keepRule(3) with equal due dates", x, "3/21/04");
+        Checks.dueKept("keepRule(3) with equal due dates", x, "3/21/04");
         BatchMachine y = new BatchMachine();
         Checks.due("keepRule(2) without jobs", () -> y.keepRule(2), 0);
         Checks.due("keepRule(2) without jobs: undo()", () -> y.undo(), 0);
@@ -365,11 +347,11 @@ public final class PromisesTest {
         BatchMachine x = sample();
         long before = x.digest();
         Checks.due("keepBest()", () -> x.keepBest(), 23);
-        dueKept("keepBest()", x, "01/2");
+        Checks.dueKept("keepBest()", x, "01/2");
         dueUndo("keepBest()", x, before, 1);
         x.setMode(true, true);
         Checks.due("keepBest() with batches", () -> x.keepBest(), 23);
-        dueKept("keepBest() with batches", x, "0/1/2");
+        Checks.dueKept("keepBest() with batches", x, "0/1/2");
         tiesOfBestSchedules();
         BatchMachine y = new BatchMachine();
         Checks.due("keepBest() without jobs", () -> y.keepBest(), 0);
@@ -383,10 +365,10 @@ public final class PromisesTest {
         x.addJob(0, 2, 0, 0, 1);
         x.setObjective(5);
         Checks.due("keepBest() of ties", () -> x.keepBest(), 6);
-        dueKept("keepBest() of ties", x, "0/1/2");
+        Checks.dueKept("keepBest() of ties", x, "0/1/2");
         x.setMode(true, true);
         x.keepBest();
-        dueKept("keepBest() of ties with batches", x, "0/1/2");
+        Checks.dueKept("keepBest() of ties with batches", x, "0/1/2");
         for (int f = 0; f < 2; f++) {
             for (int g = 0; g < 2; g++) {
                 x.setSetup(f, g, 10);
@@ -394,10 +376,10 @@ public final class PromisesTest {
         }
         Checks.due("keepBest() of ties with batches and setups", () -> x.keepBest(), 16);
         // The sets {1} and {0, 2} are the numbers 2 and 5.
-        dueKept("keepBest() of ties with batches and setups", x, "1/02");
+        Checks.dueKept("keepBest() of ties with batches and setups", x, "1/02");
         x.setMode(false, true);
         x.keepBest();
-        dueKept("keepBest() of ties with setups", x, "02/1");
+        Checks.dueKept("keepBest() of ties with setups", x, "02/1");
     }
 
     private static void promise15Improve() {
@@ -412,16 +394,16 @@ public final class PromisesTest {
         Checks.dueIllegalArgument("improve(51)", () -> x.improve(51));
         Checks.due("improve thrown: digest()", () -> x.digest(), before);
         Checks.due("improve(0)", () -> x.improve(0), 0);
-        dueKept("improve(0)", x, "012");
+        Checks.dueKept("improve(0)", x, "012");
         Checks.due("improve(1)", () -> x.improve(1), 1);
-        dueKept("improve(1)", x, "102");
+        Checks.dueKept("improve(1)", x, "102");
         Checks.due("improve(50)", () -> x.improve(50), 2);
-        dueKept("improve(50)", x, "210");
+        Checks.dueKept("improve(50)", x, "210");
         Checks.due("improve(50) again", () -> x.improve(50), 0);
         x.undo();
         x.undo();
         x.undo();
-        dueKept("improve(1) undone, it", x, "012");
+        Checks.dueKept("improve(1) undone, it", x, "012");
         movesAndMergedBatches();
         BatchMachine y = new BatchMachine();
         Checks.due("improve(50) without jobs", () -> y.improve(50), 0);
@@ -440,10 +422,10 @@ public final class PromisesTest {
         x.setObjective(5);
         Checks.parse(x, "0/12/3");
         Checks.due("improve(50) by a move", () -> x.improve(50), 1);
-        dueKept("improve(50) by a move", x, "12/03");
+        Checks.dueKept("improve(50) by a move", x, "12/03");
         Checks.parse(x, "0/3");
         Checks.due("improve(2) of parted batches", () -> x.improve(2), 1);
-        dueKept("improve(2) of parted batches", x, "30");
+        Checks.dueKept("improve(2) of parted batches", x, "30");
         Checks.parse(x, "0");
         Checks.due("improve(2) of one job", () -> x.improve(2), 0);
     }
@@ -454,20 +436,20 @@ public final class PromisesTest {
         Checks.dueOutOfBounds("batch(0, 9) of nothing", () -> x.batch(0, 9));
         Checks.parse(x, "01/2");
         Checks.due("batches()", () -> x.batches(), 2);
-        dueBatch("item", x, 0, 0, 2, 0, 3, 3, 25);
-        dueBatch("item", x, 1, 1, 1, 25, 31, 31, 35);
+        Checks.dueBatch("item", x, 0, 0, 2, 0, 3, 3, 25);
+        Checks.dueBatch("item", x, 1, 1, 1, 25, 31, 31, 35);
         x.setMode(true, true);
-        dueBatch("whole", x, 0, 0, 2, 0, 3, 20, 35);
-        dueBatch("whole", x, 1, 1, 1, 35, 41, 41, 45);
+        Checks.dueBatch("whole", x, 0, 0, 2, 0, 3, 20, 35);
+        Checks.dueBatch("whole", x, 1, 1, 1, 35, 41, 41, 45);
         x.setMode(true, false);
-        dueBatch("whole, not early", x, 0, 0, 2, 20, 23, 23, 38);
-        dueBatch("whole, not early", x, 1, 1, 1, 38, 44, 44, 48);
+        Checks.dueBatch("whole, not early", x, 0, 0, 2, 20, 23, 23, 38);
+        Checks.dueBatch("whole, not early", x, 1, 1, 1, 38, 44, 44, 48);
         x.setMode(false, false);
-        dueBatch("item, not early", x, 0, 0, 2, 0, 3, 3, 25);
+        Checks.dueBatch("item, not early", x, 0, 0, 2, 0, 3, 3, 25);
         Checks.parse(x, "10/2");
-        dueBatch("item, not early, late first", x, 0, 0, 2, 20, 23, 23, 38);
+        Checks.dueBatch("item, not early, late first", x, 0, 0, 2, 20, 23, 23, 38);
         x.setMode(false, true);
-        dueBatch("item, late first", x, 0, 0, 2, 0, 3, 20, 35);
+        Checks.dueBatch("item, late first", x, 0, 0, 2, 0, 3, 20, 35);
         int[] wrong = {-1, 6, LOW, HIGH};
         for (int w : wrong) {
             Checks.dueIllegalArgument("batch(1, " + w + ")", () -> x.batch(1, w));
@@ -485,18 +467,18 @@ public final class PromisesTest {
 
     private static void promise19Planned() {
         BatchMachine x = sample();
-        duePlanned("nothing kept", x, 0, -1, -1, -1, -1);
+        Checks.duePlanned("nothing kept", x, 0, -1, -1, -1, -1);
         Checks.parse(x, "01/2");
-        duePlanned("item", x, 0, 3, 13, 1, 0);
-        duePlanned("item", x, 1, 20, 25, 7, 0);
-        duePlanned("item", x, 2, 31, 35, 0, 1);
+        Checks.duePlanned("item", x, 0, 3, 13, 1, 0);
+        Checks.duePlanned("item", x, 1, 20, 25, 7, 0);
+        Checks.duePlanned("item", x, 2, 31, 35, 0, 1);
         x.setMode(true, true);
-        duePlanned("whole", x, 0, 20, 35, 23, 0);
-        duePlanned("whole", x, 1, 30, 35, 17, 0);
-        duePlanned("whole", x, 2, 41, 45, 5, 1);
+        Checks.duePlanned("whole", x, 0, 20, 35, 23, 0);
+        Checks.duePlanned("whole", x, 1, 30, 35, 17, 0);
+        Checks.duePlanned("whole", x, 2, 41, 45, 5, 1);
         Checks.parse(x, "2");
-        duePlanned("left out", x, 1, -1, -1, -1, -1);
-        duePlanned("alone", x, 2, 0, 4, 0, 0);
+        Checks.duePlanned("left out", x, 1, -1, -1, -1, -1);
+        Checks.duePlanned("alone", x, 2, 0, 4, 0, 0);
         int[] wrong = {-1, 4, LOW, HIGH};
         for (int w : wrong) {
             Checks.dueIllegalArgument("planned(2, " + w + ")", () -> x.planned(2, w));
@@ -648,7 +630,7 @@ public final class PromisesTest {
         Checks.due("undo() 4", () -> x.undo(), 0);
         Checks.dueIllegalState("undo() 5", () -> x.undo());
         Checks.due("undo(): setObjective(0)", () -> x.setObjective(0), 1);
-        dueKept("undo()", x, "01");
+        Checks.dueKept("undo()", x, "01");
         Checks.due("undo() after one more call", () -> x.undo(), 0);
         savingCalls();
     }

@@ -417,6 +417,18 @@ final class Model {
         return false;
     }
 
+    /** The kept schedule as a schedule text. */
+    String keptText() {
+        StringBuilder out = new StringBuilder();
+        for (List<Integer> b : kept) {
+            out.append(out.length() > 0 ? "/" : "");
+            for (int j : b) {
+                out.append(j);
+            }
+        }
+        return out.toString();
+    }
+
     // ---- exact values
 
     /** What going through all complete schedules of the present jobs has shown. */
