@@ -58,12 +58,27 @@ public final class LanguageTest {
                 && constructors[0].getParameterCount() == 0);
         Checks.dueTrue("public and final", Modifier.isPublic(c.getModifiers())
                 && Modifier.isFinal(c.getModifiers()));
+        fieldsOf(c);
         classesInside(c, names);
+    }
+
+    private static void fieldsOf(Class<?> c) {
+        int fields = 0;
+        for (Field f : c.getDeclaredFields()) {
+            if (Modifier.isStatic(f.getModifiers())) {
+                boolean constant = f.getType().isPrimitive() || f.getType() == int[].class;
+                Checks.dueTrue(f + " is a constant", constant && Modifier.isFinal(f.getModifiers()));
+            } else {
+                fields++;
+            }
+        }
+        Checks.dueTrue(c + " has at most twenty fields", fields <= 20);
     }
 
     private static void classesInside(Class<?> c, TreeSet<String> names) {
         Checks.dueTrue("at most twelve classes", c.getDeclaredClasses().length < 12);
         for (Class<?> inside : c.getDeclaredClasses()) {
+            fieldsOf(inside);
             Checks.dueTrue(inside + " is static", Modifier.isStatic(inside.getModifiers()));
             Checks.dueTrue(inside + " is not public", !Modifier.isPublic(inside.getModifiers()));
             for (Method m : inside.getDeclaredMethods()) {
@@ -74,6 +89,7 @@ public final class LanguageTest {
         for (Method m : c.getDeclaredMethods()) {
             Checks.dueTrue(m + " has a name of its own",
                     Modifier.isPublic(m.getModifiers()) || !names.contains(m.getName()));
+            Checks.dueTrue(m + " has at most seven parameters", m.getParameterCount() <= 7);
         }
     }
 
@@ -103,6 +119,11 @@ public final class LanguageTest {
         while (imports.find()) {
             Checks.dueTrue("import of " + imports.group(1),
                     imports.group(1).matches("java\\.util\\.(Arrays|ArrayList|List|NoSuchElementException)"));
+        }
+        Matcher thrown = Pattern.compile("\\bthrow\\b([^;]*);").matcher(code);
+        while (thrown.find()) {
+            Checks.dueTrue("throw" + thrown.group(1), thrown.group(1).matches(
+                    " new (IllegalState|IllegalArgument|IndexOutOfBounds)Exception\\(\"\"\\)"));
         }
         methodLengths(text);
     }

@@ -253,7 +253,6 @@ public final class PromisesTest {
     }
 
     private static void promise12Parse() {
-        BatchMachine x = sample();
         Object[][] texts = {
             {"", 0}, {"01/2", 2}, {"10/2", 2}, {"0/1/2", 3}, {"2/01", 2}, {"1", 1}, {"2/1", 2},
             {"012", -12}, {"02", -11}, {"0/", -12}, {"01/2/", -15}, {"/", -10}, {"/0", -10},
@@ -261,6 +260,7 @@ public final class PromisesTest {
             {"8", -10}, {"a", -10}, {"0 1", -11}, {"0/1 ", -13}, {"0.1", -11}, {":", -10},
             {"\0", -10}, {"0\177", -11}, {"2/3/", -12}, {"//", -10}};
         for (Object[] row : texts) {
+            BatchMachine x = sample();
             String text = (String) row[0];
             Checks.parse(x, "0/2");
             long before = x.digest();

@@ -2,6 +2,9 @@ import java.util.Random;
 
 /** Long runs of calls against the model; the seeds are fixed, so every run is the same each time. */
 public final class RandomRunsTest {
+    /** What an object answers behind so many calls is free. */
+    private static final int CALLS_OF_AN_OBJECT = 512;
+
     private final Random dice;
     private final BatchMachine x = new BatchMachine();
     private final Model m = new Model();
@@ -22,8 +25,8 @@ public final class RandomRunsTest {
     }
 
     public static void main(String[] args) {
-        for (int seed = 0; seed < 600 && !Checks.anyWrong(); seed++) {
-            new RandomRunsTest(seed, 1 + seed % 5).go(250);
+        for (int seed = 0; seed < 1200 && !Checks.anyWrong(); seed++) {
+            new RandomRunsTest(seed, 1 + seed % 5).go(CALLS_OF_AN_OBJECT);
         }
         for (int seed = 1000; seed < 1030 && !Checks.anyWrong(); seed++) {
             new RandomRunsTest(seed, 6).go(60);
@@ -31,14 +34,17 @@ public final class RandomRunsTest {
         Checks.close();
     }
 
-    private void go(int count) {
-        for (int i = 0; i < count && !Checks.anyWrong(); i++) {
-            calls++;
+    private void go(int steps) {
+        for (int i = 0; i < steps && calls < CALLS_OF_AN_OBJECT && !Checks.anyWrong(); i++) {
             step(dice.nextInt(100));
         }
     }
 
     private void ask(String name, Checks.Call call, Checks.Call model) {
+        if (calls >= CALLS_OF_AN_OBJECT) {
+            return;
+        }
+        calls++;
         Checks.compare(run + calls + ": " + name, Checks.answerOf(call), Checks.answerOf(model));
     }
 
